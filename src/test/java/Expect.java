@@ -31,9 +31,18 @@ final class Expect {
             act.run();
         } catch (RuntimeException e) {
             got = e.getClass();
+            thrownByTheGatewayItself(what, e);
         }
         if (got != due) {
             tell(what + " threw " + got + ", due is " + due);
+        }
+    }
+
+    /** A list without a look at its index throws the same class, so the class alone does not tell. */
+    static void thrownByTheGatewayItself(String what, RuntimeException e) {
+        StackTraceElement[] trace = e.getStackTrace();
+        if (trace.length == 0 || !trace[0].getClassName().equals("TollGateway")) {
+            tell(what + " threw by itself: " + e);
         }
     }
 

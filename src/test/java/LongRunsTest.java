@@ -68,9 +68,7 @@ public final class LongRunsTest {
         try {
             return "" + use(x, kind, a, b, c);
         } catch (IndexOutOfBoundsException | IllegalArgumentException | IllegalStateException e) {
-            if (e.getClass() == ArrayIndexOutOfBoundsException.class) {
-                Expect.tell("the machine threw in call kind " + kind);
-            }
+            Expect.thrownByTheGatewayItself("a call of kind " + kind, e);
             return NONE;
         }
     }
