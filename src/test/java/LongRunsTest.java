@@ -60,6 +60,8 @@ public final class LongRunsTest {
             Expect.answer("run " + run + " key " + key + " money", credit + x.held(key) + x.spent(key),
                 x.paid(key) + debt);
             Expect.answer("run " + run + " key " + key + " has credit and debt", credit > 0 && debt > 0, false);
+            int least = Math.min(Math.min(credit, debt), Math.min(x.held(key), x.tokens(key)));
+            Expect.answer("run " + run + " key " + key + " has less than 0", least < 0, false);
         }
         Expect.answer("run " + run + " costs", spent, costs);
     }

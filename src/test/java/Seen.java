@@ -1,9 +1,12 @@
-/** What a gateway shows of itself, as one text. */
+/** What a gateway shows of itself, as one text; asking changes nothing. */
 final class Seen {
     private Seen() {
     }
 
-    /** Asks only, so that the gateway can be used on. */
+    static String of(TollGateway x) {
+        return of(x, keys(x));
+    }
+
     static String of(TollGateway x, int keys) {
         StringBuilder seen = new StringBuilder();
         seen.append("now ").append(x.now()).append(" calls ").append(x.calls());
@@ -14,41 +17,35 @@ final class Seen {
                 .append(' ').append(x.isSlowed(key)).append(' ').append(x.spent(key))
                 .append(' ').append(x.paid(key));
         }
-        for (int call = 0; call < x.calls(); call++) {
+        int calls = x.calls();
+        for (int call = 0; call < calls; call++) {
             seen.append(" call").append(call).append(' ').append(x.cost(call));
         }
         return seen.toString();
     }
 
-    /** Changes the gateway to bring out what it does not tell: trust lines, plans, routes, what is in dispute. */
-    static String throughAndThrough(TollGateway x, int keys) {
-        StringBuilder seen = new StringBuilder(of(x, keys));
+    static String tokens(TollGateway x, int keys) {
+        StringBuilder seen = new StringBuilder();
         for (int key = 0; key < keys; key++) {
-            seen.append(" trust ").append(x.setTrust(key, 10000)).append(" plan ").append(x.setKeyPlan(key, 0));
+            seen.append(x.tokens(key)).append(' ');
         }
-        for (int call = 0; call < x.calls(); call++) {
-            seen.append(" back ").append(disputeOrThrow(x, call));
-        }
-        for (int plan = 0; plan < 4 && keys > 0; plan++) {
-            x.setKeyPlan(0, plan);
-            seen.append(" tokens ").append(x.tokens(0));
-            x.pass(1);
-            seen.append(' ').append(x.tokens(0));
-            x.pass(100);
-            seen.append(' ').append(x.tokens(0));
-        }
-        for (int route = 0; route < 6 && keys > 0; route++) {
-            seen.append(" route ").append(x.call(0, route, 1)).append(' ').append(x.held(0))
-                .append(' ').append(x.tokens(0));
-        }
-        return seen.append(" then ").append(of(x, keys)).toString();
+        return seen.toString();
     }
 
-    private static String disputeOrThrow(TollGateway x, int call) {
+    static int keys(TollGateway x) {
+        int keys = 0;
+        while (keys < 9 && hasKey(x, keys)) {
+            keys++;
+        }
+        return keys;
+    }
+
+    private static boolean hasKey(TollGateway x, int key) {
         try {
-            return "" + x.dispute(call);
-        } catch (IllegalStateException e) {
-            return "none";
+            x.paid(key);
+            return true;
+        } catch (IndexOutOfBoundsException e) {
+            return false;
         }
     }
 }
