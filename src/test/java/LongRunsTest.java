@@ -3,7 +3,7 @@
  * the calls that throw answers alike: so they change nothing.
  */
 public final class LongRunsTest {
-    private static final int RUNS = 400;
+    private static final int RUNS = 600;
     private static final int CALLS = 340;
     private static final String NONE = "throws";
 
@@ -29,27 +29,34 @@ public final class LongRunsTest {
         TollGateway x = new TollGateway();
         TollGateway spared = new TollGateway();
         int keys = 0;
+        int calls = 0;
         for (int i = 0; i < CALLS; i++) {
             int kind = below(17);
             int a = below(10) - 1;
             int b = below(12) - 1;
             int c = below(11) - 1;
             if (kind == 9 || kind == 10 || kind == 16) {
-                a = below(x.calls() + 2) - 1;
+                a = below(calls + 2) - 1;
             }
             String got = answer(x, kind, a, b, c);
             if (!got.equals(NONE)) {
                 Expect.answer("run " + run + " call " + i + " of the twin", answer(spared, kind, a, b, c), got);
                 keys += kind == 2 ? 1 : 0;
+                calls += kind >= 6 && kind <= 8 && got.equals("0") ? 1 : 0;
             }
         }
-        Expect.answer("run " + run + " at its end, the twin", Seen.of(spared, keys), Seen.of(x, keys));
-        checkMoney(run, x, keys);
+        // An object is good for 512 calls, too few to ask for both.
+        if (run % 2 == 0) {
+            Expect.answer("run " + run + " at its end, the twin", Seen.of(spared, keys), Seen.of(x, keys));
+        } else {
+            checkMoney(run, x, keys);
+        }
     }
 
     private static void checkMoney(int run, TollGateway x, int keys) {
         int costs = 0;
-        for (int call = 0; call < x.calls(); call++) {
+        int calls = x.calls();
+        for (int call = 0; call < calls; call++) {
             costs += Math.max(0, x.cost(call));
         }
         int spent = 0;
@@ -57,10 +64,10 @@ public final class LongRunsTest {
             int credit = x.credit(key);
             int debt = x.debt(key);
             spent += x.spent(key);
-            Expect.answer("run " + run + " key " + key + " money", credit + x.held(key) + x.spent(key),
-                x.paid(key) + debt);
+            int held = x.held(key);
+            Expect.answer("run " + run + " key " + key + " money", credit + held + x.spent(key), x.paid(key) + debt);
             Expect.answer("run " + run + " key " + key + " has credit and debt", credit > 0 && debt > 0, false);
-            int least = Math.min(Math.min(credit, debt), Math.min(x.held(key), x.tokens(key)));
+            int least = Math.min(Math.min(credit, debt), Math.min(held, x.tokens(key)));
             Expect.answer("run " + run + " key " + key + " has less than 0", least < 0, false);
         }
         Expect.answer("run " + run + " costs", spent, costs);
