@@ -29,6 +29,7 @@ public final class CallBoundsTest {
         disputedOnce();
         aDisputeLowersTheDebtFirst();
         aDisputeMayFillTheBucketAboveItsSize();
+        disputesMayFillTheLargestBucketAboveItsSize();
         aPaymentLowersTheDebtFirst();
         Expect.finish();
     }
@@ -243,19 +244,34 @@ public final class CallBoundsTest {
         }
     }
 
-    private static void allOf80HoldsRunOut() {
+    /** All 80 calls at tick 0, of one key, each of a worth of 9000: the most that a call can be worth. */
+    private static TollGateway withAll80OfTheMostWorth() {
         TollGateway x = new TollGateway();
         x.setPlan(0, 80, 0, 0);
         x.addKey(0);
-        x.pay(0, 800);
-        for (int call = 0; call < 80; call++) {
-            x.call(0, 0, 1);
+        x.setRoute(0, 1000, 1);
+        for (int payment = 0; payment < 8; payment++) {
+            x.pay(0, 90000);
         }
+        for (int call = 0; call < 80; call++) {
+            x.call(0, 0, 9);
+        }
+        return x;
+    }
+
+    private static void allOf80HoldsRunOut() {
+        TollGateway x = withAll80OfTheMostWorth();
         Expect.answer("at the 19th tick", x.pass(19), 0);
-        Expect.answer("all are held", x.held(0), 800);
+        Expect.answer("all are held", x.held(0), 720000);
         Expect.answer("at the 20th tick", x.pass(1), 80);
         Expect.answer("none is held", x.held(0), 0);
-        Expect.answer("all is spent", x.spent(0), 800);
+        Expect.answer("all is spent", x.spent(0), 720000);
+        x.pass(50);
+        for (int call = 0; call < 80; call++) {
+            Expect.answer("what goes back", x.dispute(call), 9000);
+        }
+        Expect.answer("none is spent", x.spent(0), 0);
+        Expect.answer("all has gone back", x.credit(0), 720000);
     }
 
     // ---- calls that end
@@ -405,6 +421,29 @@ public final class CallBoundsTest {
             x.pass(1);
             Expect.answer("20 tokens and a tick, size " + size, x.tokens(0), size > 20 ? 25 : 20);
         }
+    }
+
+    private static void disputesMayFillTheLargestBucketAboveItsSize() {
+        TollGateway x = new TollGateway();
+        x.setPlan(0, 100, 100, 100);
+        x.addKey(0);
+        x.setRoute(0, 0, 20);
+        for (int call = 0; call < 15; call++) {
+            x.call(0, 0, 1);
+            x.end(call, 0);
+            if (call % 5 == 4) {
+                x.pass(1);
+            }
+        }
+        for (int call = 0; call < 15; call++) {
+            Expect.answer("100 tokens and " + call + " times 20", x.tokens(0), 100 + 20 * call);
+            x.dispute(call);
+        }
+        x.pass(1);
+        Expect.answer("a tick leaves them", x.tokens(0), 400);
+        Expect.answer("a call takes its own", x.call(0, 0, 1), LET_THROUGH);
+        x.pass(1);
+        Expect.answer("they refill no more", x.tokens(0), 380);
     }
 
     // ---- payments

@@ -1,7 +1,10 @@
+import java.io.IOException;
 import java.lang.reflect.Constructor;
 import java.lang.reflect.Field;
 import java.lang.reflect.Method;
 import java.lang.reflect.Modifier;
+import java.nio.file.Files;
+import java.nio.file.Path;
 import java.util.TreeSet;
 
 /** The public face is the document's, and nothing else of the class can be seen from outside. */
@@ -10,12 +13,45 @@ public final class FaceTest {
     private static final String ARGUMENT = "IllegalArgumentException";
     private static final String STATE = "IllegalStateException";
 
-    public static void main(String[] args) {
+    /** As the document writes it; the heads stand where it says that the interface has them. */
+    private static final String[] WRITTEN = {
+        "public final class TollGateway {",
+        "public static final int LET_THROUGH = 0, NO_TOKENS = 1, NO_CREDIT = 2;",
+        "public TollGateway()",
+        "// ---- plans, routes, keys",
+        "public void setPlan(int plan, int size, int refill, int slow) throws IllegalArgumentException",
+        "public void setRoute(int route, int price, int weight) throws IllegalArgumentException",
+        "public int addKey(int plan) throws IllegalArgumentException, IllegalStateException",
+        "public int setKeyPlan(int key, int plan) throws IndexOutOfBoundsException, IllegalArgumentException",
+        "public int setTrust(int key, int line) throws IndexOutOfBoundsException, IllegalArgumentException",
+        "public int pay(int key, int money) throws IndexOutOfBoundsException, IllegalArgumentException",
+        "// ---- calls",
+        "public int call(int key, int route, int size)"
+            + " throws IndexOutOfBoundsException, IllegalArgumentException, IllegalStateException",
+        "public int end(int call, int outcome)"
+            + " throws IndexOutOfBoundsException, IllegalArgumentException, IllegalStateException",
+        "public int dispute(int call) throws IndexOutOfBoundsException, IllegalStateException",
+        "public int pass(int ticks) throws IllegalArgumentException",
+        "public int now()",
+        "public int calls()",
+        "// ---- what there is",
+        "public int credit(int key) throws IndexOutOfBoundsException",
+        "public int debt(int key) throws IndexOutOfBoundsException",
+        "public int held(int key) throws IndexOutOfBoundsException",
+        "public int tokens(int key) throws IndexOutOfBoundsException",
+        "public boolean isSlowed(int key) throws IndexOutOfBoundsException",
+        "public int cost(int call) throws IndexOutOfBoundsException",
+        "public int spent(int key) throws IndexOutOfBoundsException",
+        "public int paid(int key) throws IndexOutOfBoundsException"
+    };
+
+    public static void main(String[] args) throws IOException {
         constants();
         constructor();
         methods();
         Expect.answer("the class is public and final",
             TollGateway.class.getModifiers() & (Modifier.PUBLIC | Modifier.FINAL), Modifier.PUBLIC | Modifier.FINAL);
+        written();
         Expect.finish();
     }
 
@@ -69,6 +105,17 @@ public final class FaceTest {
             }
         }
         Expect.answer("the methods", got.toString(), due.toString());
+    }
+
+    // What is compiled keeps neither the heads nor the parameters' names, so the source is looked at.
+    private static void written() throws IOException {
+        String source = Files.readString(Path.of("src/main/java/TollGateway.java")).replaceAll("\\s+", " ");
+        int from = 0;
+        for (String line : WRITTEN) {
+            int found = source.indexOf(line, from);
+            Expect.answer("the source has, in the document's order, " + line, found >= 0, true);
+            from = Math.max(from, found);
+        }
     }
 
     private static String face(String answer, String name, int parameters, String... exceptions) {

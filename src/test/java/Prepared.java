@@ -28,16 +28,17 @@ final class Prepared {
     }
 
     /**
-     * Two keys, no two settings alike, no bucket full, so that any change shows. Key 0 has credit and open holds,
-     * key 1 is slowed and has debt. Call 0 was disputed long ago, call 1 ran out 51 ticks ago, call 2 ended 50 ticks
-     * ago, calls 3 to 6 ended as good, bad, failed and good, call 7 has just been disputed, calls 8 and 9 are open.
+     * Two keys, no two settings alike, no bucket full, so that any change shows. Key 0 has credit and open holds;
+     * key 1 is slowed and has debt, too few tokens for route 5, and too little trust for a size of 9 on route 0.
+     * Call 0 was disputed long ago, call 1 ran out 51 ticks ago, call 2 ended 50 ticks ago, calls 3 to 6 ended as
+     * good, bad, failed and good, call 7 has just been disputed, calls 8 and 9 are open.
      */
     static TollGateway busy() {
         TollGateway x = new TollGateway();
         x.setPlan(0, 60, 5, 2);
         x.setPlan(1, 9, 1, 0);
         x.setPlan(2, 30, 7, 6);
-        x.setPlan(3, 40, 3, 1);
+        x.setPlan(3, 39, 3, 1);
         for (int route = 0; route < 6; route++) {
             x.setRoute(route, 5 + 3 * route, 4 + route);
         }

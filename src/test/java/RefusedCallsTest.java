@@ -168,6 +168,8 @@ public final class RefusedCallsTest {
         full("8: no size, 80 calls", ARGUMENT, x -> x.call(0, 0, 10));
         full("8: no route, no size, 80 calls", ARGUMENT, x -> x.call(0, -1, 0));
         refused("8: no route, no size", ARGUMENT, x -> x.call(0, 6, 0));
+        Expect.answer("8: no tokens", Prepared.busy().call(1, 5, 1), TollGateway.NO_TOKENS);
+        Expect.answer("8: no credit", Prepared.busy().call(1, 0, 9), TollGateway.NO_CREDIT);
         full("8: 80 calls, no tokens", STATE, x -> x.call(1, 5, 1));
         full("8: 80 calls, no credit", STATE, x -> x.call(1, 0, 9));
         refused("8: no size, no tokens", ARGUMENT, x -> x.call(1, 5, 10));
